@@ -12,7 +12,7 @@ public final class TokenRowModel {
     private record Token(int kind, int place, int line, int value, int level, String text) { }
 
     private static final int NONE = TokenRow.NONE;
-    private static final int OBJECTS = 3000;
+    private static final int OBJECTS = 6000;
     private static final int CALLS = 512;
 
     private static final Set<String> KEYWORDS = Set.of(
@@ -38,6 +38,7 @@ public final class TokenRowModel {
         + "|(?<sign>\\$\\(|\\$\\)|:=|~=|<=|>=|<<|>>|->|[(),;:!@+\\-*/=<>~&|])");
 
     private static int wrong = 0;
+    private static int left = 0;
 
     public static void main(String[] args) {
         Random random = new Random(20261115);
@@ -64,37 +65,46 @@ public final class TokenRowModel {
         StringBuilder tape = new StringBuilder();
         String read = "";
         List<Token> tokens = List.of();
-        for (int calls = 0; calls < CALLS; ) {
+        left = CALLS;
+        while (left > 0) {
             int way = random.nextInt(100);
-            if (way < 55) {
-                calls += askOne(x, tokens, read, random);
-            } else if (way < 62) {
-                int n = random.nextInt(10) == 0 ? random.nextInt() : random.nextInt(tape.length() + 4) - 1;
-                boolean fine = n >= 0 && n <= tape.length();
-                due("end " + n, tape.toString(), x.end(n) ? 1 : 0, fine ? 1 : 0);
-                if (fine) {
-                    tape.setLength(n);
-                }
-                calls++;
-            } else if (way < 92) {
-                calls += feedText(x, tape, madeUp(random));
-            } else {
+            if (way < 40) {
+                askOne(x, tokens, read, random);
+            } else if (way < 50) {
+                endSomewhere(x, tape, random);
+            } else if (way < 88) {
+                feedText(x, tape, madeUp(random));
+            } else if (spend(1)) {
                 read = tape.toString();
                 tokens = tokensOf(read);
                 tape.setLength(0);
                 due("read", read, x.read(), tokens.size());
-                calls++;
-                if (random.nextInt(4) == 0) {
-                    askAll(x, tokens, read);
-                }
+                askSome(x, tokens, read, random.nextInt(tokens.size() + 1) - 1);
             }
         }
-        askAll(x, tokens, read);
     }
 
-    private static int feedText(TokenRow x, StringBuilder tape, String text) {
-        int calls = 0;
-        for (int from = 0; from < text.length(); from += 20) {
+    /** What an object answers behind its last call is free, so that no more than those may be asked. */
+    private static boolean spend(int calls) {
+        boolean fine = calls <= left;
+        left = fine ? left - calls : 0;
+        return fine;
+    }
+
+    private static void endSomewhere(TokenRow x, StringBuilder tape, Random random) {
+        int n = random.nextInt(10) == 0 ? random.nextInt() : random.nextInt(tape.length() + 4) - 1;
+        if (!spend(1)) {
+            return;
+        }
+        boolean fine = n >= 0 && n <= tape.length();
+        due("end " + n, tape.toString(), x.end(n) ? 1 : 0, fine ? 1 : 0);
+        if (fine) {
+            tape.setLength(n);
+        }
+    }
+
+    private static void feedText(TokenRow x, StringBuilder tape, String text) {
+        for (int from = 0; from < text.length() && spend(1); from += 20) {
             StringBuilder part = new StringBuilder(text.substring(from, Math.min(from + 20, text.length())));
             while (part.length() < 20) {
                 part.append(' ');
@@ -109,33 +119,36 @@ public final class TokenRowModel {
             if (fine) {
                 tape.append(part);
             }
-            calls++;
         }
-        return calls;
     }
 
-    private static int askOne(TokenRow x, List<Token> tokens, String text, Random random) {
+    private static void askOne(TokenRow x, List<Token> tokens, String text, Random random) {
         int k = random.nextInt(20) == 0 ? random.nextInt() : random.nextInt(tokens.size() + 3) - 1;
         ask(x, tokens, text, k);
-        due("textAt " + k, text, x.textAt(k, random.nextInt()), NONE);
-        return 8;
+        if (spend(1)) {
+            int far = random.nextBoolean() ? -1 - random.nextInt(1000) : 1000 + random.nextInt(1000);
+            due("textAt " + k + " " + far, text, x.textAt(k, far), NONE);
+        }
     }
 
-    private static void askAll(TokenRow x, List<Token> tokens, String text) {
-        for (int k = -1; k <= tokens.size(); k++) {
+    private static void askSome(TokenRow x, List<Token> tokens, String text, int from) {
+        for (int k = from; k <= tokens.size() && k < from + 12; k++) {
             ask(x, tokens, text, k);
         }
     }
 
     private static void ask(TokenRow x, List<Token> tokens, String text, int k) {
         Token t = k >= 0 && k < tokens.size() ? tokens.get(k) : null;
+        int size = t == null ? 0 : t.text.length();
+        if (!spend(6 + size + 2)) {
+            return;
+        }
         due("kind " + k, text, x.kind(k), t == null ? NONE : t.kind);
         due("place " + k, text, x.place(k), t == null ? NONE : t.place);
         due("line " + k, text, x.line(k), t == null ? NONE : t.line);
         due("value " + k, text, x.value(k), t == null ? 0 : t.value);
         due("level " + k, text, x.level(k), t == null ? NONE : t.level);
         due("size " + k, text, x.size(k), t == null ? NONE : t.text.length());
-        int size = t == null ? 0 : t.text.length();
         for (int i = -1; i <= size; i++) {
             due("textAt " + k + " " + i, text, x.textAt(k, i), i < 0 || i >= size ? NONE : t.text.charAt(i));
         }
