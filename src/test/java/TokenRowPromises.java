@@ -16,6 +16,7 @@ public final class TokenRowPromises {
 
     public static void main(String[] args) {
         face();
+        twoObjects();
         newObject();
         feed();
         end();
@@ -137,6 +138,26 @@ public final class TokenRowPromises {
         due("size " + k, x.size(k), NONE);
         due("textAt " + k, x.textAt(k, 0), NONE);
         due("textAt " + k, x.textAt(k, k), NONE);
+    }
+
+    // ---- "All memory is the class's own."
+
+    /** Calls of two objects in turn: neither may answer from the other's tape, tokens or texts. */
+    private static void twoObjects() {
+        TokenRow x = new TokenRow();
+        TokenRow y = new TokenRow();
+        feedBytes(x, "IF \"*Tab\" 12\nc".getBytes(StandardCharsets.ISO_8859_1));
+        feedBytes(y, "d + 'e'".getBytes(StandardCharsets.ISO_8859_1));
+        due("read of the first", x.read(), 6);
+        noToken(y, 0);
+        due("the second's tape is not empty", y.end(7), true);
+        due("the first's tape is", x.end(1), false);
+        due("read of the second", y.read(), 4);
+        due("the first's tokens", shown(x), "k:IF s:\tab i:12 +:; n:c END14");
+        due("the second's tokens", shown(y), "n:d +:+ i:101 END7");
+        due("the first's lines", x.line(2) + 10 * x.line(3) + 100 * x.line(5), 110);
+        due("the first's places", x.place(1) + 100 * x.place(2), 1003);
+        due("the second's level", y.level(1), 5);
     }
 
     // ---- promise 1
